@@ -285,7 +285,7 @@ public final class CutProofs {
         }
 
         int least(int r, int n) {
-            return Math.min(factors[r][n] * low[n], factors[r][n] * high[n]);
+            return factors[r][n] * (factors[r][n] < 0 ? high[n] : low[n]);
         }
 
         boolean clashAnywhere(int a, int b) {

@@ -11,6 +11,7 @@ public final class CutTest {
         plants();
         plantedEdges();
         checksOfRounding();
+        checksOfTimesBelowZero();
         checksOfCovers();
         checksOfCliques();
         strengths();
@@ -179,6 +180,32 @@ public final class CutTest {
         EXPECT.due("-7 + 6: -1 is due", 0, y.check(0));
         y.plant(0, 1, 0, -1);
         EXPECT.due("-7 + 6: -1 is due", 1, y.check(0));
+    }
+
+    /** Sums that would come out, were it not that something is taken less than 0 times. */
+    private static void checksOfTimesBelowZero() {
+        CutProofs x = new CutProofs();
+        x.name(-3, 4);
+        Models.addRow(x, -7, 0);
+        Models.addRow(x, 5, 0);
+        x.find(0);
+        x.plant(0, 5, 0, 1);
+        x.plant(0, 1, 0, 100);
+        EXPECT.due("D may be 1", 1, x.check(0));
+        x.plant(0, 3, 0, -2);
+        x.plant(0, 0, 0, 2);
+        EXPECT.due("low", 0, x.check(0));
+        x.plant(0, 3, 0, 0);
+        x.plant(0, 4, 0, -2);
+        x.plant(0, 0, 0, -2);
+        EXPECT.due("high", 0, x.check(0));
+        x.plant(0, 4, 0, 2);
+        x.plant(0, 0, 0, 2);
+        EXPECT.due("high twice", 1, x.check(0));
+        x.plant(0, 2, 1, -1);
+        EXPECT.due("row", 0, x.check(0));
+        x.plant(0, 2, 1, 1);
+        EXPECT.due("row", 1, x.check(0));
     }
 
     /** One thing is told otherwise and looked at, then told as before. */

@@ -20,6 +20,7 @@ public final class FindTest {
         onlyBroken();
         noneTwice();
         fullList();
+        allNamesAndRows();
         EXPECT.end();
     }
 
@@ -265,5 +266,34 @@ public final class FindTest {
         x = Models.negativeRights(1, 2, 4, 8, 16, 32, 64, 128, 256, 512);
         EXPECT.due("ten rows", 40, x.find(0));
         EXPECT.cut(x, 39, 1, 0, "-40");
+    }
+
+    /** Ten times the same row over eight names: a cut for each number of rows from 2 on. */
+    private static void allNamesAndRows() {
+        CutProofs x = Models.binaries(8);
+        for (int r = 0; r < 10; r++) {
+            Models.addRow(x, 1, 1, 1, 1, 1, 1, 1, 1, 1);
+        }
+        Models.pointAll(x, 8, 1, 2);
+        EXPECT.due("plans()", 9, x.plans());
+        EXPECT.due("find(0)", 9, x.find(0));
+        int[] rights = {1, 5, 2, 6, 3, 7, 4, 8, 5};
+        for (int k = 0; k < 9; k++) {
+            int f = (k + 3) / 2;
+            EXPECT.wholeCut(x, k, 0, rights[k], f, f, f, f, f, f, f, f);
+            for (int r = 0; r < 10; r++) {
+                EXPECT.due("row", r < k + 2 ? 1 : 0, x.proof(k, 0, r));
+            }
+            EXPECT.due("high", k % 2, x.proof(k, 2, 7));
+            EXPECT.due("holds", 1, x.holds(k));
+        }
+        EXPECT.due("accepted", 9, x.told(4));
+        EXPECT.due("covers are all the first one", 0, x.find(2));
+        EXPECT.due("so is the clique", 0, x.find(3));
+        x.plant(0, 1, 0, 2);
+        EXPECT.due("find(2)", 1, x.find(2));
+        x.plant(9, 1, 0, 0);
+        EXPECT.due("find(3)", 1, x.find(3));
+        EXPECT.wholeCut(x, 10, 3, 1, 1, 1, 1, 1, 1, 1, 1, 1);
     }
 }

@@ -99,21 +99,15 @@ public final class PlansTest {
         }
         EXPECT.due("very many", -4, y.plans());
         CutProofs z = new CutProofs();
-        z.name(-30, 28);
-        z.name(-30, 28);
-        z.name(0, 5);
-        EXPECT.due("20886", -4, z.plans());
+        z.name(1, 27);
+        z.name(-19, 19);
+        z.name(-20, -3);
+        EXPECT.due("27 times 39 times 18", 18954, z.plans());
         CutProofs w = new CutProofs();
-        w.name(1, 3);
-        w.name(1, 59);
-        EXPECT.due("bad", 1, w.told(0));
-        w.name(-29, 29);
-        w.name(0, 0);
-        EXPECT.due("177", 177, w.plans());
-        EXPECT.due("name(0, 1)", 3, w.name(0, 1));
-        EXPECT.due("354", 354, w.plans());
-        w.name(-28, 28);
-        EXPECT.due("20178", -4, w.plans());
+        w.name(1, 27);
+        w.name(-19, 19);
+        w.name(-20, -2);
+        EXPECT.due("27 times 39 times 19 is 20007", -4, w.plans());
     }
 
     private static void turns() {
