@@ -378,7 +378,7 @@ public final class CutProofs {
         }
     }
 
-    /** The cuts by number; the slot behind the last one holds the draft, so that none is made twice. */
+    /** The cuts by number; the slot behind the last one holds the draft, so that a search makes no object. */
     private static final class CutList {
         final Cut[] slots = new Cut[MOST_CUTS + 1];
         int count;
