@@ -262,18 +262,15 @@ public final class CutProofs {
             return r >= 0 && r < rows;
         }
 
-        /** Called only while there is room; what an earlier name left behind is wiped out here. */
+        /** Called only while there is room; its factors are 0 since addRow wiped the whole of each row. */
         int addName(int lowest, int highest) {
             low[names] = lowest;
             high[names] = highest;
             scaledPoint[names] = 0;
-            for (int r = 0; r < rows; r++) {
-                factors[r][names] = 0;
-            }
             return names++;
         }
 
-        /** Called only while there is room. */
+        /** Called only while there is room; wipes out what a row before clear left behind, for all names. */
         int addRow(int right) {
             rights[rows] = right;
             Arrays.fill(factors[rows], 0);
