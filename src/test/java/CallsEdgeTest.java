@@ -620,5 +620,11 @@ public final class CallsEdgeTest {
         x.clear();
         x.clear();
         EXPECT.due("cleared twice", first, Look.built(x));
+        x.clear();
+        x.name(0, 1);
+        x.row(-1);
+        x.find(0);
+        x.plant(0, 0, 0, 1000);
+        EXPECT.strength(x, 0, 0, "1");
     }
 }

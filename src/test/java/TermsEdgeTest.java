@@ -331,12 +331,14 @@ public final class TermsEdgeTest {
         w.point(0, 13, 2);
         w.find(1);
         EXPECT.wholeCut(w, 0, 1, 6, 1);
-        EXPECT.due("5 and 6", 1, w.holds(0));
         w.plant(0, 0, 0, -1);
         w.plant(0, 1, 0, -5);
-        EXPECT.due("-5 and -6", 1, w.holds(0));
+        EXPECT.due("-5 and -6 are not above -5", 1, w.holds(0));
         w.plant(0, 1, 0, -6);
         EXPECT.due("-5 is above -6", 0, w.holds(0));
+        w.plant(0, 0, 0, 1);
+        w.plant(0, 1, 0, 6);
+        EXPECT.due("5 and 6 are not above 6", 1, w.holds(0));
         CutProofs z = Models.binaries(8);
         Models.addRow(z, 9999, 50);
         z.point(0, 400, 1);
